@@ -266,18 +266,19 @@ final class PlainTown {
         return outside(k, 0, now.deeds.size() - 1);
     }
 
-    int town(int d) {
+    private int bytesRefusal(int d) {
         if (outside(d, 0, 7)) {
             return -1;
         }
-        if (shelves[d] == null) {
-            return -11;
-        }
-        if (!(shelves[d] instanceof Row row) || row.sort != 0) {
-            return -12;
+        return shelves[d] == null ? -11 : shelves[d] instanceof Row row && row.sort == 0 ? 0 : -12;
+    }
+
+    int town(int d) {
+        if (bytesRefusal(d) != 0) {
+            return bytesRefusal(d);
         }
         StringBuilder text = new StringBuilder();
-        for (int b : row.elements) {
+        for (int b : ((Row) shelves[d]).elements) {
             text.append((char) (b & 255));
         }
         for (int length = 1; length <= text.length(); length++) {
@@ -361,15 +362,10 @@ final class PlainTown {
 
     /** The LIST in a SHELF into a given one: 0, or what is refused. */
     private int list(int d, List<Deed> into) {
-        if (outside(d, 0, 7)) {
-            return -1;
+        if (bytesRefusal(d) != 0) {
+            return bytesRefusal(d);
         }
-        if (shelves[d] == null) {
-            return -11;
-        }
-        if (!(shelves[d] instanceof Row row) || row.sort != 0) {
-            return -12;
-        }
+        Row row = (Row) shelves[d];
         if (row.elements.length > 8 || Arrays.stream(row.elements).anyMatch(this::noDeed)) {
             return -13;
         }

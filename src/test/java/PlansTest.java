@@ -50,6 +50,10 @@ public final class PlansTest {
         leastIs(x, 1, 1, 5, 2);
         Due.read(x, "n10 +0;");
         leastIs(x, 1, 1, 10, 1);
+        // Fewer are less than cheaper: one for 4 COINS, not two for 1 and 0.
+        x = Due.town("d0 a0 0;d0 b0 0;d0ab c0 0;d0a d0 0;d0b e0 0;n10 -3;l1;");
+        Due.list(x, 1, 0, 1, 2, 3, 4);
+        leastIs(x, 3, 1, 4, 4);
         Due.is(14, "in mind alone", x.marks(), 0);
         Due.is(14, "marks -1", x.least(6, -1, 0), -1);
         Due.is(14, "marks 1024", x.least(1, 1024, 0), -1);
@@ -120,7 +124,15 @@ public final class PlansTest {
         planIs(x, 1, -7, 99);
         planIs(x, 2, -7, 99);
         Due.is(16, "in mind alone", x.state(1), 0);
-        Due.is(16, "in mind alone", x.marks(), 1);
+        x = Due.town("d0a b0 0;d0 a0 0;");
+        Due.row(x, 2, Due.SHORTS, 0, 4, 0, 0, 0, 0, 0, 0, 0, 0);
+        planIs(x, 1, 4, 310);
+        Due.row(x, 2, Due.SHORTS, 1, 4, 0, 0, 0, 0, 0, 0, 0, 0);
+        planIs(x, 1, 5, 310);
+        Due.read(x, "d7 a0 1;");
+        planIs(x, 1, 5, 129);
+        Due.read(x, "mj;");
+        Due.is(16, "in mind alone", x.marks(), 512);
     }
 
     private static void planRefusals() {
@@ -143,6 +155,10 @@ public final class PlansTest {
         Due.is(16, "a worth of 1000", x.plan(1, 2, 0), FAR - 13);
         x.put(2, 9, -1000);
         Due.is(16, "a worth of -1000", x.plan(1, 2, 0), FAR - 13);
+        x.put(2, 9, 0);
+        x.put(2, 0, 1000);
+        Due.is(16, "a first worth of 1000", x.plan(1, 2, 0), FAR - 13);
+        x.put(2, 0, 0);
         x.put(2, 9, -999);
         Due.is(16, "a worth of -999", x.plan(1, 2, 0), 0);
     }
@@ -153,6 +169,7 @@ public final class PlansTest {
         Due.read(x, "ma;");
         Due.is(17, "a so", x.ever(), 79);
         Due.is(17, "in mind alone", x.marks(), 1);
+        Due.is(17, "pulled ones make nothing", Due.town("d6 b0 0;").ever(), 0);
         Due.read(x, "mh;");
         Due.is(17, "a, h so", x.ever(), 463);
         x = Due.town("d6 a1 0;d6a b2 0;d6c d0 0;d0 e0 0;d6 a5 0;mb;c2;");
@@ -195,6 +212,17 @@ public final class PlansTest {
         Due.is(19, "sixteen places", x.two(3, 3, 255, 128, 1), 1);
         Due.list(x, 4);
         Due.is(19, "an empty one", x.two(4, 3, 255, 129, 1), 2);
+        // What is changed at the last places is undone as elsewhere: at 13 b is made, and 14 falls without it.
+        x = Due.town("d0 a0 0;d0 b0 0;d0b c0 0;d6 b0 0;ma;n0 +0;");
+        Due.list(x, 1, 0, 0, 0, 0, 0, 0, 0, 2);
+        Due.list(x, 2, 0, 0, 0, 0, 0, 0, 1);
+        Due.is(19, "14 falls", x.two(1, 2, 128, 0, 0), 0);
+        Due.is(19, "14 stands", x.two(1, 2, 128, 64, 0), 1);
+        Due.read(x, "mb;");
+        Due.list(x, 1, 2, 0, 0, 0, 0, 0, 0);
+        Due.list(x, 2, 0, 0, 0, 0, 0, 0, 3);
+        Due.is(19, "at 13 b is brought back, and 0 stands", x.two(1, 2, 1, 0, 0), 1);
+        Due.list(x, 3, 0, 0, 0, 0, 0, 0, 0, 0);
         Due.is(19, "nails of the one out of range", x.two(6, 2, 256, 0, 0), -1);
         Due.is(19, "nails of the other out of range", x.two(1, 6, 0, -1, 0), -1);
         Due.is(19, "what 2", x.two(6, 2, 0, 0, 2), -1);
@@ -221,6 +249,8 @@ public final class PlansTest {
         Due.is(21, "nail(2)", x.nail(2), 4);
         Due.is(21, "nail(3)", x.nail(3), 0);
         Due.is(21, "nail(4)", x.nail(4), 0);
+        Due.read(x, "n5 -9;");
+        Due.is(20, "the second month", x.month(), 1);
         Due.read(x, "n99 -1;");
         Due.is(20, "falling", x.month(), 7);
         Due.is(21, "nail(7)", x.nail(7), 92);

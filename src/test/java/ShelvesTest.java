@@ -97,7 +97,9 @@ public final class ShelvesTest {
         Due.is(29, "row(0, 2, 100)", x.row(0, 2, 100), 0);
         Due.is(29, "its last element", x.element(0, 99), 0);
         x.put(0, 99, 7);
+        x.put(0, 0, 7);
         Due.is(29, "a new one", x.row(0, 2, 100), 0);
+        Due.is(29, "is 0 all through", x.element(0, 0), 0);
         Due.is(29, "is 0 all through", x.element(0, 99), 0);
         x.put(0, 99, 7);
         Due.is(29, "row(0, 2, 101)", x.row(0, 2, 101), -1);

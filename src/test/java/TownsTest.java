@@ -45,6 +45,8 @@ public final class TownsTest {
         Due.is(6, "rise()", x.rise(), 9);
         Due.is(2, "n1 -0", Due.read(x, "n1 -0;"), 1);
         Due.is(6, "rise()", x.rise(), 0);
+        Due.is(2, "l0", Due.read(x, "l0;"), 1);
+        Due.is(5, "state(2)", x.state(2), 0);
         Due.is(2, "a later one counts", Due.read(x, "c1;c23;c456;"), 3);
         Due.is(5, "state(0)", x.state(0), 456);
         Due.is(2, "needs of all marks", Due.read(x, "d0abcdefghij j99 0;"), 1);
@@ -163,6 +165,9 @@ public final class TownsTest {
         BackwardYears x = new BackwardYears();
         Due.is(7, "set(0, 2)", x.set(0, 2), 0);
         Due.is(7, "set(0, 1)", x.set(0, 1), 2);
+        Due.is(7, "set(0, 0)", x.set(0, 0), 1);
+        Due.is(5, "state(2)", x.state(2), 0);
+        Due.is(7, "set(0, 1)", x.set(0, 1), 0);
         Due.is(7, "set(0, 3)", x.set(0, 3), -1);
         Due.is(7, "set(0, -1)", x.set(0, -1), -1);
         Due.is(5, "state(2)", x.state(2), 1);

@@ -124,6 +124,9 @@ public final class YearsTest {
         x = Due.town("ma;d6 a0 0;d4 b0 5;l1;");
         Due.list(x, 1, 0, 1);
         fates(x, 0, 1, 3);
+        x = Due.town("ma;d4a b0 5;d6 a0 0;l1;");
+        Due.list(x, 1, 0, 1);
+        fates(x, 0, 3, 1);
         x = Due.town("d0 a0 0;d4a b0 4;d4b c0 4;l1;");
         Due.list(x, 1, 0, 1, 2);
         fates(x, 0, 1, 1, 1);
@@ -176,6 +179,10 @@ public final class YearsTest {
         Due.list(x, 1, 1);
         Due.is(13, "pulled", x.behind(1, 1, 0), 0);
         Due.is(13, "pulled and undone", x.behind(1, 0, 0), 1);
+        x = Due.town("d6 b0 0;");
+        Due.list(x, 1, 0);
+        Due.is(13, "pulled, though it wasn't so", x.behind(1, 1, 0), 0);
+        x = Due.town("ma;d0 a1 0;d6 a1 0;d7 b1 2;d0 b1 0;");
         Due.list(x, 1, 2);
         Due.is(13, "sworn makes both", x.behind(1, 1, 0), 7);
         Due.is(13, "sworn and undone", x.behind(1, 0, 0), 1);
