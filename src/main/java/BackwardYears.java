@@ -21,6 +21,7 @@ public final class BackwardYears {
     private static final int MOVES = 241;
     private static final int NO_DEED_DIGIT = 9;
     private static final int MOST_WORTH = 999;
+    private static final int ALL_BUT_SIGN = 2147483647;
 
     private static final int PLAIN = 0;
     private static final int RAISED = 1;
@@ -268,16 +269,17 @@ public final class BackwardYears {
     }
 
     public int two(int d, int e, int nails, int others, int what) {
-        if (!areNails(nails) || !areNails(others) || what < 0 || what > 1) {
+        Shelf list = shelfAt(d);
+        Shelf other = shelfAt(e);
+        // A SHELF that isn't there is told ahead of what either LIST is refused with.
+        if (list == null || other == null || !areNails(nails) || !areNails(others) || what < 0 || what > 1) {
             return NO_SUCH;
         }
         int refusal = listRefusal(d);
         if (refusal == 0) {
             refusal = listRefusal(e);
         }
-        Shelf list = shelfAt(d);
-        Shelf other = shelfAt(e);
-        if (refusal != 0 || list == null || other == null) {
+        if (refusal != 0) {
             return refusal;
         }
         int ones = playTwo(list, other, nails, others);
@@ -756,7 +758,7 @@ public final class BackwardYears {
     }
 
     private static int drawn(int z, int below) {
-        return below <= 0 ? 0 : (z & Integer.MAX_VALUE) / 65536 % below;
+        return below <= 0 ? 0 : (z & ALL_BUT_SIGN) / 65536 % below;
     }
 
     /** The place of the first thing told that is wrong by the LIST in mind. */
@@ -769,7 +771,7 @@ public final class BackwardYears {
                 years.oddYear();
             }
             boolean isSo = i <= years.size && told.read(i) == years.marks;
-            if (!isSo && told.read(i) != told.least()) {
+            if (!isSo && told.read(i) != told.leastNumber()) {
                 return i;
             }
         }
@@ -796,8 +798,11 @@ public final class BackwardYears {
         static final int SHORTS = 1;
         static final int INTS = 2;
         static final int NO_ROW = -1;
+        static final int LEAST_BYTE = -128;
+        static final int LEAST_SHORT = -32768;
+        static final int LEAST_INT = -2147483648;
         /** Read where there is no element, so that it is no sign of any text. */
-        static final int NO_ELEMENT = Integer.MIN_VALUE;
+        static final int NO_ELEMENT = LEAST_INT;
 
         final int[] elements = new int[MOST_ELEMENTS];
         Deed deed;
@@ -855,8 +860,8 @@ public final class BackwardYears {
             return true;
         }
 
-        int least() {
-            return sort == BYTES ? Byte.MIN_VALUE : sort == SHORTS ? Short.MIN_VALUE : Integer.MIN_VALUE;
+        int leastNumber() {
+            return sort == BYTES ? LEAST_BYTE : sort == SHORTS ? LEAST_SHORT : LEAST_INT;
         }
     }
 

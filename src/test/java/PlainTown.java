@@ -562,7 +562,8 @@ final class PlainTown {
     }
 
     int two(int d, int e, int nails, int others, int what) {
-        if (outside(nails, 0, 255) || outside(others, 0, 255) || outside(what, 0, 1)) {
+        if (outside(d, 0, 7) || outside(e, 0, 7) || outside(nails, 0, 255) || outside(others, 0, 255)
+                || outside(what, 0, 1)) {
             return -1;
         }
         return byList(d, one -> byList(e, other -> {

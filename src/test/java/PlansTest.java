@@ -229,9 +229,28 @@ public final class PlansTest {
         Due.is(19, "the one's list first", x.two(5, 3, 0, 0, 0), -11);
         x.keep(6, 1, 0);
         Due.is(19, "the one's list first", x.two(6, 5, 0, 0, 0), -12);
+        Due.is(19, "the one's list last", x.two(3, 6, 0, 0, 0), -12);
+        twoNoSuchShelves();
         BackwardYears y = x;
         Due.listRefusals(19, "two, one", y, d -> y.two(d, 1, 0, 0, 0));
         Due.listRefusals(19, "two, other", y, d -> y.two(1, d, 0, 0, 0));
+    }
+
+    /** A SHELF that isn't there is told first, whatever the other one's LIST is refused with. */
+    private static void twoNoSuchShelves() {
+        BackwardYears x = Due.town("d0 a1 0;");
+        x.keep(2, 1, 0);
+        Due.row(x, 3, Due.SHORTS, 0);
+        Due.list(x, 4, 1);
+        Due.list(x, 5, 0, 0, 0, 0, 0, 0, 0, 0, 0);
+        for (int refused = 1; refused < 6; refused++) {
+            for (int none : new int[] {Integer.MIN_VALUE, -1, 8, Integer.MAX_VALUE}) {
+                Due.is(19, "no shelf of the other, one's " + refused, x.two(refused, none, 0, 0, 0), -1);
+                Due.is(19, "no shelf of the one, other's " + refused, x.two(none, refused, 0, 0, 1), -1);
+            }
+        }
+        Due.is(19, "a place that isn't there of the one, nothing of the other", x.two(4, 1, 0, 0, 0), -13);
+        Due.is(19, "nothing of the one, a deed of the other", x.two(1, 2, 0, 0, 0), -11);
     }
 
     private static void monthsAndNails() {
