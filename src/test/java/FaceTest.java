@@ -21,7 +21,8 @@ public final class FaceTest {
     private static final int CALLS = 512;
     /** What LANGUAGE.md rules out and a look at the text can find. */
     private static final String RULED_OUT = "->|::|\\bfinally\\b|\\bsynchronized\\b|\\bassert\\b|\\bpackage\\b|\\bimport\\b"
-            + "|\\w+Exact\\b|\\bSystem\\.(?!arraycopy)|\\bMath\\.random|\\bThread\\b|\\bprotected\\b|\"\\s*\\+|\\+\\s*\"";
+            + "|\\w+Exact\\b|\\bSystem\\.(?!arraycopy)|\\bMath\\.random|\\bThread\\b|\\bprotected\\b"
+            + "|\\b(Byte|Short|Character|Boolean)\\b|_VALUE\\b|\"\\s*\\+|\\+\\s*\"";
 
     public static void main(String[] args) throws IOException, ReflectiveOperationException {
         members();
