@@ -344,6 +344,11 @@ public final class PlanEdgesTest {
         x = Due.town("d0b a0 0;d0 b0 0;d0 c0 0;");
         worths(x, 2, 1);
         planIs(x, 1, 3, 310);
+        // What is more in MARKS (as bits) is less in COINS.
+        x = Due.town("d2 a1 0;d2 b2 0;d2 c4 0;n0 +0;");
+        worths(x, 1, 5, 2);
+        planIs(x, 1, 7, 312);
+        planIs(x, 2, 8, 109);
     }
 
     /** "unlike": no DEED twice. The LENT one brings 9 a time; twice in a year it would bring enough for b. */
