@@ -349,6 +349,11 @@ public final class PlanEdgesTest {
         worths(x, 1, 5, 2);
         planIs(x, 1, 7, 312);
         planIs(x, 2, 8, 109);
+        // Nothing is left, neither MARKS nor COINS.
+        x = Due.town("d6 a99 0;ma;n0 +0;c99;");
+        worths(x, -5);
+        planIs(x, 1, 0, 109);
+        planIs(x, 2, 0, 99);
     }
 
     /** "unlike": no DEED twice. The LENT one brings 9 a time; twice in a year it would bring enough for b. */
